@@ -43,6 +43,7 @@ public final class RepealedLawsPromises {
         promise20NoChange();
         promise21();
         promise22();
+        promise22OtherLaws();
         strangeNumbers();
         System.out.println(wrong == 0 ? "all promises are kept" : wrong + " answers are not as due");
         if (wrong != 0) {
@@ -241,6 +242,9 @@ public final class RepealedLawsPromises {
         x.read();
         due("6 made behind the end in read()", x.endSession(), 1);
         due("6 session", x.count(3), 6);
+        RepealedLaws full = full();
+        due("6 eighty in one session", full.endSession(), 80);
+        due("6 none with 80 laws", full.endSession(), 0);
     }
 
     // ---- 7: read
@@ -742,6 +746,17 @@ public final class RepealedLawsPromises {
         due("16 no bill pleases all", x.bestBill(), NONE);
         x.set(YEAS, 4);
         due("16 four", x.bestBill(), 100);
+        RepealedLaws y = new RepealedLaws();
+        type(y, "10f20f30f40f50f60f70f80f");
+        y.read();
+        due("16 the lowest topic and stance of 1", y.bestBill(), 101);
+        for (int councillor = 0; councillor < 5; councillor++) {
+            y.wish(councillor, 0, 0);
+            y.wish(councillor, 5, 2);
+        }
+        due("16 only a bill of 9 repeals nothing that all want", y.bestBill(), 900);
+        y.propose(9, 0, 0, NONE);
+        due("16 then three votes", y.bestBill(), 152);
         RepealedLaws full = full();
         refused(full, "16 too many", full::bestBill, TOO_MANY);
     }
@@ -987,6 +1002,29 @@ public final class RepealedLawsPromises {
         due("22 empty", y.count(4), 0);
         y.undo();
         due("22 undone", y.count(7), 2);
+    }
+
+    /** Other laws that took the numbers of those saved, or undone, leave nothing behind. */
+    private static void promise22OtherLaws() {
+        RepealedLaws x = new RepealedLaws();
+        x.save(0);
+        x.endSession();
+        x.propose(3, 2, 1, NONE);
+        x.endSession();
+        x.propose(3, 4, 0, 0);
+        x.repeal(1);
+        String saved = withoutHistory(x);
+        x.save(1);
+        x.restore(0);
+        x.propose(7, 5, 2, NONE);
+        x.propose(8, 0, 2, NONE);
+        String others = withoutHistory(x);
+        due("22 the saved laws", x.restore(1), 0);
+        due("22 the saved laws", withoutHistory(x), saved);
+        due("22 the other laws", x.undo(), 5);
+        due("22 the other laws", withoutHistory(x), others);
+        x.restore(1);
+        due("22 the saved laws again", withoutHistory(x), saved);
     }
 
     // ---- numbers far out of all ranges, at each call that takes one
