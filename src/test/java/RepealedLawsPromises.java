@@ -1,13 +1,7 @@
 import java.util.function.IntSupplier;
 
 /** The promises 1 to 22, one method each: ordinary inputs, edges, and errors in their order. */
-public final class RepealedLawsPromises {
-    private static final int NO_SUCH = -1, BAD_VALUE = -2, BAD_TEXT = -3, TOO_MANY = -4, NOT_POSSIBLE = -5, NONE = -6;
-    private static final int YEAS = 0, ROOM = 1, MEMORY = 2;
-    private static final int LEAST = Integer.MIN_VALUE, GREATEST = Integer.MAX_VALUE;
-
-    private static int wrong = 0;
-
+public final class RepealedLawsPromises extends Checks {
     public static void main(String[] args) {
         promise1();
         promise2();
@@ -45,10 +39,7 @@ public final class RepealedLawsPromises {
         promise22();
         promise22OtherLaws();
         strangeNumbers();
-        System.out.println(wrong == 0 ? "all promises are kept" : wrong + " answers are not as due");
-        if (wrong != 0) {
-            System.exit(1);
-        }
+        end();
     }
 
     // ---- 1: a new object
@@ -1075,20 +1066,6 @@ public final class RepealedLawsPromises {
         return x;
     }
 
-    private static void type(RepealedLaws x, String text) {
-        for (int from = 0; from < text.length(); from += 8) {
-            x.put(characters(text.substring(from, Math.min(from + 8, text.length()))));
-        }
-    }
-
-    private static long characters(String text) {
-        long number = 0;
-        for (int i = 0; i < text.length(); i++) {
-            number = number << 8 | text.charAt(i);
-        }
-        return number;
-    }
-
     private static void dueFault(String text, int want) {
         RepealedLaws x = new RepealedLaws();
         type(x, text);
@@ -1147,19 +1124,5 @@ public final class RepealedLawsPromises {
             }
         }
         return text.toString();
-    }
-
-    private static void due(String what, long got, long want) {
-        if (got != want) {
-            wrong++;
-            System.out.println(what + ": answered " + got + ", due is " + want);
-        }
-    }
-
-    private static void due(String what, String got, String want) {
-        if (!got.equals(want)) {
-            wrong++;
-            System.out.println(what + ":\n  is     " + got + "\n  due is " + want);
-        }
     }
 }
