@@ -123,6 +123,24 @@ abstract class Checks {
         return made(80);
     }
 
+    /** Laws 70 to 78 of 1 to 9 words in force, three of each stance, all in the topic 0, behind 70 repealed ones. */
+    static RepealedLaws lateLaws() {
+        RepealedLaws x = made(71);
+        type(x, "20f30f40a50a60a70d80d90d");
+        x.read();
+        return x;
+    }
+
+    /** The law 0 is in force (3 words that forbid the topic 0), 300 sessions ended and 300 bills failed since. */
+    static RepealedLaws longAgo() {
+        RepealedLaws x = oneLaw();
+        for (int i = 0; i < 20; i++) {
+            type(x, "30f!".repeat(15));
+            x.read();
+        }
+        return x;
+    }
+
     /** 80 laws, and no bill would pass: the law in force is wished by all, all five have to vote for a bill. */
     static RepealedLaws eightyAndNoBill() {
         RepealedLaws x = made(80);

@@ -11,6 +11,8 @@ public final class RepealedLawsEdgesOfQuestions extends Checks {
         countErrors();
         countNoneAndMost();
         countOfRepealed();
+        lateNumbers();
+        greatNumbers();
         why();
         votesErrors();
         votesNoneAndAll();
@@ -327,6 +329,79 @@ public final class RepealedLawsEdgesOfQuestions extends Checks {
             x.repeal(0);
             return x.count(7);
         }, 0);
+    }
+
+    /** What is told of laws with great numbers: nothing wraps around at 32 or 64. */
+    private static void lateNumbers() {
+        int[] counts = {3, 10, 0, 0, 79, 9, 70, 45, 27, 27, 1, 0, 0, 6};
+        for (int i = 0; i < counts.length; i++) {
+            int what = i;
+            answers("11 laws 70 to 78 in force: count " + i, Checks::lateLaws, x -> x.count(what), counts[what]);
+        }
+        int[] topic = {9, 2, 78, 27, 0};
+        for (int i = 0; i < topic.length; i++) {
+            int what = i;
+            answers("9 laws 70 to 78 in force: topic " + i, Checks::lateLaws, x -> x.topic(0, what), topic[what]);
+        }
+        for (int length = 1; length <= 9; length++) {
+            int words = length;
+            answers("14 laws 70 to 78 in force: of length " + length, Checks::lateLaws, x -> x.bestRepeal(words, 5, 0),
+                    69 + length);
+            answers("8 laws 70 to 78 in force: contradicts, of length " + length, Checks::lateLaws,
+                    x -> x.law(69 + words, 7), 6);
+            answers("8 laws 70 to 78 in force: holds, of length " + length, Checks::lateLaws,
+                    x -> x.law(69 + words, 8), words == 9 ? 1 : 0);
+            answers("4 laws 70 to 78 in force: repealed, of length " + length, Checks::lateLaws, x -> {
+                x.propose(words, 5, 2, 69 + words);
+                return 1000 * x.law(79, 5) + 10 * x.law(69 + words, 6) + x.law(69 + words, 4);
+            }, 1000 * (69 + length) + 790);
+        }
+        for (int law = 0; law < 70; law++) {
+            int number = law;
+            answers("8 the repealed law " + law + ", by which", Checks::lateLaws, x -> x.law(number, 6), law + 1);
+            answers("12 the repealed law " + law + " is named", Checks::lateLaws, x -> x.why(1, 5, 2, number), 4);
+            answers("5 the repealed law " + law + " is repealed", Checks::lateLaws, x -> x.repeal(number), NOT_POSSIBLE);
+        }
+    }
+
+    /** Numbers above 255, as an object can reach them: nothing wraps around. */
+    private static void greatNumbers() {
+        answers("11 the session: 300", Checks::longAgo, x -> x.count(3), 300);
+        answers("11 bills that failed: 300", Checks::longAgo, x -> x.count(11), 300);
+        answers("5 for how many sessions: 300", Checks::longAgo, x -> x.repeal(0), 300);
+        answers("8 the session in which it was repealed: 300", Checks::longAgo, x -> {
+            x.repeal(0);
+            return x.law(0, 4);
+        }, 300);
+        answers("8 the session in which it was made: 300", Checks::longAgo, x -> {
+            x.propose(4, 0, 0, NONE);
+            return x.law(1, 3);
+        }, 300);
+        answers("6 made in the session 300, not in the session 0", Checks::longAgo, x -> {
+            x.propose(4, 0, 0, NONE);
+            return x.endSession();
+        }, 1);
+        answers("12 repealed 2 sessions before the session 302", Checks::longAgo, x -> {
+            x.repeal(0);
+            x.endSession();
+            x.endSession();
+            return x.why(3, 0, 0, NONE);
+        }, 0);
+        answers("12 repealed 1 session before the session 301", Checks::longAgo, x -> {
+            x.repeal(0);
+            x.endSession();
+            return x.why(3, 0, 0, NONE);
+        }, 3);
+        answers("20 the session 300 undone: one read()", Checks::longAgo, x -> {
+            x.undo();
+            return x.count(3);
+        }, 285);
+        answers("21 the session 300 saved and restored", Checks::longAgo, x -> {
+            x.save(1);
+            x.endSession();
+            x.restore(1);
+            return x.count(3);
+        }, 300);
     }
 
     // ---- 12: why

@@ -20,6 +20,7 @@ public final class RepealedLawsEdgesOfStates extends Checks {
         restore();
         restoreKeeps();
         restoreEverything();
+        otherLaws();
         end();
     }
 
@@ -226,6 +227,12 @@ public final class RepealedLawsEdgesOfStates extends Checks {
                 answers("20 how many can be undone then: " + changes + ", undone " + times,
                         () -> ended(sessions, undone - 1), x -> x.undo(), Math.min(changes, 6) - times);
             }
+        }
+        for (int times = 0; times <= 6; times++) {
+            int undone = times;
+            answers("20 at most 6 states: after 300, undone " + times, () -> ended(300, undone), x -> x.count(13), 6 - times);
+            answers("20 the state before the change: 300, undone " + times, () -> ended(300, undone), x -> x.count(3),
+                    300 - times);
         }
         answers("20 the oldest one is dropped, not the latest", () -> ended(7, 6), x -> x.count(3), 1);
     }
@@ -539,5 +546,45 @@ public final class RepealedLawsEdgesOfStates extends Checks {
             x.restore(0);
             return question.applyAsInt(x);
         }, want);
+    }
+
+    /** Laws whose numbers other laws have taken come back as they were. */
+    private static void otherLaws() {
+        int[] one = {9, 5, 2, 1, NONE, 0, NONE};
+        int[] two = {4, 1, 1, 0, 0, NONE, NONE};
+        for (int i = 0; i < one.length; i++) {
+            int what = i;
+            answers("22 as it was saved, other laws there now: law 1, " + i, RepealedLawsEdgesOfStates::twoCodes, x -> {
+                x.restore(0);
+                return x.law(1, what);
+            }, one[what]);
+            answers("22 as it was saved, other laws there now: the other slot, " + i,
+                    RepealedLawsEdgesOfStates::twoCodes, x -> {
+                x.restore(0);
+                x.restore(1);
+                return x.law(1, what);
+            }, two[what]);
+            answers("20 as it was before, other laws restored: law 1, " + i, RepealedLawsEdgesOfStates::twoCodes, x -> {
+                x.restore(0);
+                x.undo();
+                return x.law(1, what);
+            }, two[what]);
+        }
+    }
+
+    /** In slot 0 and in slot 1 (and now): two laws, of which the second is unlike in all that is told of it. */
+    private static RepealedLaws twoCodes() {
+        RepealedLaws x = new RepealedLaws();
+        x.save(1);
+        x.propose(9, 0, 0, NONE);
+        x.endSession();
+        x.propose(9, 5, 2, 0);
+        x.save(0);
+        x.restore(1);
+        x.propose(3, 3, 0, NONE);
+        x.propose(4, 1, 1, NONE);
+        x.repeal(1);
+        x.save(1);
+        return x;
     }
 }
