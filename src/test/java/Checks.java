@@ -111,12 +111,17 @@ abstract class Checks {
     /** So many laws of 1 word made in the session 0 (each repeals the one before), MEMORY is 0. */
     static RepealedLaws made(int laws) {
         RepealedLaws x = new RepealedLaws();
+        makeLaws(x, laws);
+        return x;
+    }
+
+    /** Makes them in an empty code, by five changes at most. */
+    static void makeLaws(RepealedLaws x, int laws) {
         x.set(MEMORY, 0);
         for (int left = laws; left > 0; left -= 20) {
             type(x, "10f10a".repeat(10).substring(0, 3 * Math.min(left, 20)));
             x.read();
         }
-        return x;
     }
 
     static RepealedLaws eighty() {

@@ -167,11 +167,7 @@ public final class RepealedLawsEdgesOfChanges extends Checks {
         }, 60);
         answers("4 80 laws were made, but fewer restored", Checks::fresh, x -> {
             x.save(0);
-            x.set(MEMORY, 0);
-            for (int i = 0; i < 4; i++) {
-                type(x, "10f10a".repeat(10));
-                x.read();
-            }
+            makeLaws(x, 80);
             x.restore(0);
             return x.propose(2, 0, 0, NONE);
         }, 0);

@@ -515,11 +515,7 @@ public final class RepealedLawsEdgesOfStates extends Checks {
         restores("the session", x -> x.endSession(), x -> x.count(3), 2);
         restores("bills that failed", Checks::readsAFailure, x -> x.count(11), 2);
         answers("22 80 laws saved, restored over none", Checks::fresh, x -> {
-            x.set(MEMORY, 0);
-            for (int i = 0; i < 4; i++) {
-                type(x, "10f10a".repeat(10));
-                x.read();
-            }
+            makeLaws(x, 80);
             x.save(0);
             for (int i = 0; i < 5; i++) {
                 x.undo();
@@ -529,11 +525,7 @@ public final class RepealedLawsEdgesOfStates extends Checks {
         }, 78);
         answers("22 no law saved, restored over 80", Checks::fresh, x -> {
             x.save(0);
-            x.set(MEMORY, 0);
-            for (int i = 0; i < 4; i++) {
-                type(x, "10f10a".repeat(10));
-                x.read();
-            }
+            makeLaws(x, 80);
             x.restore(0);
             return x.law(0, 0);
         }, NO_SUCH);
