@@ -39,6 +39,7 @@ public final class RepealedLawsPromises extends Checks {
         promise22();
         promise22OtherLaws();
         strangeNumbers();
+        exampleOfTheReadme();
         end();
     }
 
@@ -1111,5 +1112,19 @@ public final class RepealedLawsPromises extends Checks {
             text.append(' ').append(x.count(what));
         }
         return text.toString();
+    }
+
+    // ---- what README.md shows
+
+    private static void exampleOfTheReadme() {
+        RepealedLaws code = new RepealedLaws();
+        due("readme wish", code.wish(1, 0, 1), 3);
+        due("readme law", code.propose(3, 0, 1, RepealedLaws.NONE), 0);
+        due("readme why", code.why(3, 0, 2, RepealedLaws.NONE), 5);
+        due("readme best", code.bestRepeal(3, 0, 2), 0);
+        due("readme put", code.put('4' << 16 | '1' << 8 | 'd'), 3);
+        due("readme passed", code.read(), 1);
+        due("readme undo", code.undo(), 2);
+        due("readme laws", code.count(4), 1);
     }
 }
